@@ -74,11 +74,9 @@ public final class RecastStage {
     private static final int CLAPS = 25;
     private static final int NUMBER = 26;
 
-    private final Tape tape = new Tape();
     private final Reader reader = new Reader();
     private final PlayReader playReader = new PlayReader();
     private final Play play = new Play();
-    private final Play newPlay = new Play();
     private final Evening evening = new Evening();
     private final Evening trial = new Evening();
     private final History history = new History();
@@ -99,34 +97,34 @@ public final class RecastStage {
     }
 
     public int feed(int a, int b, int c, int d, int e) {
-        if (!tape.hasRoom(20)) {
+        if (!reader.tape.hasRoom(20)) {
             return NONE;
         }
-        tape.append(a);
-        tape.append(b);
-        tape.append(c);
-        tape.append(d);
-        tape.append(e);
-        return tape.length;
+        reader.tape.append(a);
+        reader.tape.append(b);
+        reader.tape.append(c);
+        reader.tape.append(d);
+        reader.tape.append(e);
+        return reader.tape.length;
     }
 
     public boolean end(int n) {
-        if (n < 0 || n > tape.length) {
+        if (n < 0 || n > reader.tape.length) {
             return false;
         }
-        tape.length = n;
+        reader.tape.length = n;
         return true;
     }
 
     public int play() {
-        reader.open(tape, MOST_PLAY);
-        int lines = playReader.read(reader, newPlay);
-        tape.length = 0;
+        reader.open(MOST_PLAY);
+        int lines = playReader.read(reader);
+        reader.tape.length = 0;
         latestFault = reader.fault;
         if (reader.fault != 0) {
             return -1 - reader.faultPlace;
         }
-        play.copyFrom(newPlay);
+        play.copyFrom(playReader.told);
         evening.begin();
         sentence.clear();
         history.forget();
@@ -420,9 +418,9 @@ public final class RecastStage {
         if (lives != 0 && lives != 1) {
             return OTHER_LIVES;
         }
-        reader.open(tape, MOST_BOOK);
+        reader.open(MOST_BOOK);
         book.read(reader, play);
-        tape.length = 0;
+        reader.tape.length = 0;
         latestFault = reader.fault;
         if (reader.fault != 0) {
             return -2 - reader.faultPlace;
@@ -455,9 +453,9 @@ public final class RecastStage {
     }
 
     public int sentence() {
-        reader.open(tape, MOST_SENTENCE);
+        reader.open(MOST_SENTENCE);
         newSentence.read(reader, play);
-        tape.length = 0;
+        reader.tape.length = 0;
         latestFault = reader.fault;
         if (reader.fault != 0) {
             return -1 - reader.faultPlace;
@@ -525,7 +523,7 @@ public final class RecastStage {
             case 5:
                 return play.rest ? 1 : 0;
             case 6:
-                return tape.length;
+                return reader.tape.length;
             default:
                 return NONE;
         }
@@ -612,7 +610,7 @@ public final class RecastStage {
         static final int AT_NONSENSE = 4;
 
         private final long[] reserved;
-        private Tape tape = null;
+        final Tape tape = new Tape();
         private int most = 0;
         private int behind = 0;
         int kind = AT_END;
@@ -645,8 +643,7 @@ public final class RecastStage {
             return name * 32 + (letter - 'a' + 1);
         }
 
-        void open(Tape text, int mostBytes) {
-            tape = text;
+        void open(int mostBytes) {
             most = mostBytes;
             behind = 0;
             fault = 0;
@@ -655,10 +652,6 @@ public final class RecastStage {
         }
 
         void step() {
-            if (tape == null) {
-                kind = AT_END;
-                return;
-            }
             while (behind < tape.length && isBlank(tape.byteAt(behind))) {
                 behind++;
             }
@@ -966,16 +959,13 @@ public final class RecastStage {
     }
 
     private static final class PlayReader {
-        private Reader reader = null;
-        private Play play = null;
+        final Play told = new Play();
 
-        int read(Reader from, Play into) {
-            reader = from;
-            play = into;
-            play.clear();
+        int read(Reader reader) {
+            told.clear();
             int lines = 0;
             for (int k = 0; k <= MOST_PLAY && reader.kind != Reader.AT_END; k++) {
-                readLine();
+                readLine(reader);
                 if (reader.isFine()) {
                     reader.takeSign(';');
                 }
@@ -987,43 +977,43 @@ public final class RecastStage {
             return lines;
         }
 
-        private void readLine() {
+        private void readLine(Reader reader) {
             switch (reader.wordHere()) {
                 case PART:
-                    readPart();
+                    readPart(reader);
                     break;
                 case FACT:
-                    readFact();
+                    readFact(reader);
                     break;
                 case CLEARS:
-                    readClears();
+                    readClears(reader);
                     break;
                 case MAN:
-                    readMan();
+                    readMan(reader);
                     break;
                 case ACT:
-                    readAct();
+                    readAct(reader);
                     break;
                 case SCENE:
-                    readScene();
+                    readScene(reader);
                     break;
                 case SHOWS:
-                    readShows();
+                    readShows(reader);
                     break;
                 case NEEDS:
-                    readNeeds();
+                    readNeeds(reader);
                     break;
                 case LIKES:
-                    readLikes();
+                    readLikes(reader);
                     break;
                 case NEVER:
-                    readNever();
+                    readNever(reader);
                     break;
                 case FOES:
-                    readFoes();
+                    readFoes(reader);
                     break;
                 case REST:
-                    readRest();
+                    readRest(reader);
                     break;
                 default:
                     reader.fail(CANT_COME);
@@ -1031,8 +1021,8 @@ public final class RecastStage {
         }
 
         // Steps over the LINE's first word, where one more of its sort may be.
-        private boolean takeOneOf(int told, int most) {
-            if (told >= most) {
+        private static boolean takeOneOf(Reader reader, int count, int most) {
+            if (count >= most) {
                 reader.fail(TOO_MANY);
                 return false;
             }
@@ -1040,12 +1030,12 @@ public final class RecastStage {
             return true;
         }
 
-        private boolean takeNewName(long[] names, int k) {
+        private boolean takeNewName(Reader reader, long[] names, int k) {
             if (!reader.isAtName()) {
                 reader.fail(CANT_COME);
                 return false;
             }
-            if (play.hasName(reader.name)) {
+            if (told.hasName(reader.name)) {
                 reader.fail(WRONG_NAME);
                 return false;
             }
@@ -1057,7 +1047,7 @@ public final class RecastStage {
         }
 
         // The second of a pair stands here: which are told already, as bits, with it.
-        private int takeOnce(int bits, int k) {
+        private static int takeOnce(Reader reader, int bits, int k) {
             if (has(bits, k)) {
                 reader.fail(WRONG_NAME);
                 return bits;
@@ -1066,133 +1056,133 @@ public final class RecastStage {
             return bits | 1 << k;
         }
 
-        private void readPart() {
-            if (!takeOneOf(play.parts, MOST_PARTS) || !takeNewName(play.partNames, play.parts)) {
+        private void readPart(Reader reader) {
+            if (!takeOneOf(reader, told.parts, MOST_PARTS) || !takeNewName(reader, told.partNames, told.parts)) {
                 return;
             }
-            play.partSkill[play.parts] = reader.takeNumber(0, 9);
-            play.parts++;
+            told.partSkill[told.parts] = reader.takeNumber(0, 9);
+            told.parts++;
         }
 
-        private void readFact() {
-            if (takeOneOf(play.facts, MOST_FACTS) && takeNewName(play.factNames, play.facts)) {
-                play.facts++;
+        private void readFact(Reader reader) {
+            if (takeOneOf(reader, told.facts, MOST_FACTS) && takeNewName(reader, told.factNames, told.facts)) {
+                told.facts++;
             }
         }
 
-        private void readClears() {
+        private void readClears(Reader reader) {
             reader.step();
-            int f = reader.takeName(play.factNames, play.facts);
+            int f = reader.takeName(told.factNames, told.facts);
             if (f == NONE) {
                 return;
             }
-            int p = reader.nameHere(play.partNames, play.parts);
+            int p = reader.nameHere(told.partNames, told.parts);
             if (p != NONE) {
-                play.factClears[f] = takeOnce(play.factClears[f], p);
+                told.factClears[f] = takeOnce(reader, told.factClears[f], p);
             }
         }
 
-        private void readMan() {
-            if (!takeOneOf(play.men, MOST_MEN) || !takeNewName(play.manNames, play.men)) {
+        private void readMan(Reader reader) {
+            if (!takeOneOf(reader, told.men, MOST_MEN) || !takeNewName(reader, told.manNames, told.men)) {
                 return;
             }
-            play.manSkill[play.men] = reader.takeNumber(0, 9);
+            told.manSkill[told.men] = reader.takeNumber(0, 9);
             if (reader.isFine()) {
-                play.manSeat[play.men] = reader.takeNumber(1, 9);
+                told.manSeat[told.men] = reader.takeNumber(1, 9);
             }
-            play.men++;
+            told.men++;
         }
 
-        private void readAct() {
-            if (takeOneOf(play.acts, MOST_ACTS)) {
-                play.acts++;
+        private void readAct(Reader reader) {
+            if (takeOneOf(reader, told.acts, MOST_ACTS)) {
+                told.acts++;
             }
         }
 
-        private void readScene() {
-            if (play.acts == 0) {
+        private void readScene(Reader reader) {
+            if (told.acts == 0) {
                 reader.fail(CANT_COME);
                 return;
             }
-            if (!takeOneOf(play.scenes, MOST_SCENES)) {
+            if (!takeOneOf(reader, told.scenes, MOST_SCENES)) {
                 return;
             }
-            int s = play.scenes;
-            play.sceneAct[s] = play.acts - 1;
-            play.scenes++;
+            int s = told.scenes;
+            told.sceneAct[s] = told.acts - 1;
+            told.scenes++;
             for (int k = 0; k <= MOST_PARTS && reader.isFine(); k++) {
                 if (k > 0 && reader.isAtSign(';')) {
                     return;
                 }
-                int p = reader.nameHere(play.partNames, play.parts);
+                int p = reader.nameHere(told.partNames, told.parts);
                 if (p != NONE) {
-                    play.sceneParts[s] = takeOnce(play.sceneParts[s], p);
+                    told.sceneParts[s] = takeOnce(reader, told.sceneParts[s], p);
                 }
             }
         }
 
-        private void readShows() {
-            int s = play.scenes - 1;
-            if (s < 0 || play.sceneAct[s] != play.acts - 1) {
+        private void readShows(Reader reader) {
+            int s = told.scenes - 1;
+            if (s < 0 || told.sceneAct[s] != told.acts - 1) {
                 reader.fail(CANT_COME);
                 return;
             }
             reader.step();
-            int f = reader.nameHere(play.factNames, play.facts);
+            int f = reader.nameHere(told.factNames, told.facts);
             if (f != NONE) {
-                play.sceneFacts[s] = takeOnce(play.sceneFacts[s], f);
+                told.sceneFacts[s] = takeOnce(reader, told.sceneFacts[s], f);
             }
         }
 
-        private void readNeeds() {
+        private void readNeeds(Reader reader) {
             reader.step();
-            int p = reader.takeName(play.partNames, play.parts);
+            int p = reader.takeName(told.partNames, told.parts);
             if (p == NONE) {
                 return;
             }
-            int f = reader.nameHere(play.factNames, play.facts);
+            int f = reader.nameHere(told.factNames, told.facts);
             if (f != NONE) {
-                play.partNeeds[p] = takeOnce(play.partNeeds[p], f);
+                told.partNeeds[p] = takeOnce(reader, told.partNeeds[p], f);
             }
         }
 
-        private void readLikes() {
+        private void readLikes(Reader reader) {
             reader.step();
-            int m = reader.takeName(play.manNames, play.men);
+            int m = reader.takeName(told.manNames, told.men);
             if (m == NONE) {
                 return;
             }
-            int p = reader.nameHere(play.partNames, play.parts);
+            int p = reader.nameHere(told.partNames, told.parts);
             if (p == NONE) {
                 return;
             }
-            if (play.liking(m, p) != 0) {
+            if (told.liking(m, p) != 0) {
                 reader.fail(WRONG_NAME);
                 return;
             }
             reader.step();
-            play.likes[m * MOST_PARTS + p] = reader.takeNumber(1, 9);
+            told.likes[m * MOST_PARTS + p] = reader.takeNumber(1, 9);
         }
 
-        private void readNever() {
+        private void readNever(Reader reader) {
             reader.step();
-            int m = reader.takeName(play.manNames, play.men);
+            int m = reader.takeName(told.manNames, told.men);
             if (m == NONE) {
                 return;
             }
-            int p = reader.nameHere(play.partNames, play.parts);
+            int p = reader.nameHere(told.partNames, told.parts);
             if (p != NONE) {
-                play.manNever[m] = takeOnce(play.manNever[m], p);
+                told.manNever[m] = takeOnce(reader, told.manNever[m], p);
             }
         }
 
-        private void readFoes() {
+        private void readFoes(Reader reader) {
             reader.step();
-            int m = reader.takeName(play.manNames, play.men);
+            int m = reader.takeName(told.manNames, told.men);
             if (m == NONE) {
                 return;
             }
-            int other = reader.nameHere(play.manNames, play.men);
+            int other = reader.nameHere(told.manNames, told.men);
             if (other == NONE) {
                 return;
             }
@@ -1200,16 +1190,16 @@ public final class RecastStage {
                 reader.fail(WRONG_NAME);
                 return;
             }
-            play.manFoes[m] = takeOnce(play.manFoes[m], other);
-            play.manFoes[other] |= 1 << m;
+            told.manFoes[m] = takeOnce(reader, told.manFoes[m], other);
+            told.manFoes[other] |= 1 << m;
         }
 
-        private void readRest() {
-            if (play.rest) {
+        private void readRest(Reader reader) {
+            if (told.rest) {
                 reader.fail(WRONG_NAME);
                 return;
             }
-            play.rest = true;
+            told.rest = true;
             reader.step();
         }
     }
@@ -1441,7 +1431,8 @@ public final class RecastStage {
     private static final class Casting {
         private static final int IMPOSSIBLE = 1000000;
 
-        private Play play = null;
+        private int men = 0;
+        private final int[] foes = new int[MOST_MEN];
         int levels = 0;
         final int[] partAt = new int[MOST_PARTS];
         final int[] ableAt = new int[MOST_PARTS];
@@ -1455,9 +1446,10 @@ public final class RecastStage {
         int always = 0;
 
         // False: all ACTS are over.
-        boolean prepare(Play of, Evening evening, boolean whispering) {
-            play = of;
+        boolean prepare(Play play, Evening evening, boolean whispering) {
             levels = 0;
+            men = play.men;
+            System.arraycopy(play.manFoes, 0, foes, 0, MOST_MEN);
             if (evening.isOver(play)) {
                 return false;
             }
@@ -1465,7 +1457,7 @@ public final class RecastStage {
             for (int p = 0; p < play.parts; p++) {
                 if (has(wanted, p)) {
                     partAt[levels] = p;
-                    ableAt[levels] = ableMen(evening, p, whispering);
+                    ableAt[levels] = ableMen(play, evening, p, whispering);
                     besideAt[levels] = play.partsBeside(p, evening.next);
                     levels++;
                 }
@@ -1473,30 +1465,30 @@ public final class RecastStage {
             return true;
         }
 
-        private int ableMen(Evening evening, int p, boolean whispering) {
-            int men = 0;
+        private static int ableMen(Play play, Evening evening, int p, boolean whispering) {
+            int able = 0;
             for (int m = 0; m < play.men; m++) {
                 int reason = evening.whyUnfit(play, m, p);
                 boolean fit = reason == 0 || whispering && reason == UNKNOWING;
                 if (fit && !has(evening.ill, m)) {
-                    men |= 1 << m;
+                    able |= 1 << m;
                 }
             }
-            return men;
+            return able;
         }
 
         private int freeMen(int level, int used) {
-            int men = ableAt[level] & ~used;
+            int free = ableAt[level] & ~used;
             for (int k = 0; k < level; k++) {
                 if (has(besideAt[level], partAt[k])) {
-                    men &= ~play.manFoes[manAt[k]];
+                    free &= ~foes[manAt[k]];
                 }
             }
-            return men;
+            return free;
         }
 
-        boolean findBest(Play of, Evening evening) {
-            if (!prepare(of, evening, false)) {
+        boolean findBest(Play play, Evening evening) {
+            if (!prepare(play, evening, false)) {
                 return false;
             }
             for (int k = 0; k < levels; k++) {
@@ -1511,17 +1503,17 @@ public final class RecastStage {
             return -cheapest;
         }
 
-        void castInto(int[] men) {
-            Arrays.fill(men, NONE);
+        void castInto(int[] manAs) {
+            Arrays.fill(manAs, NONE);
             for (int k = 0; k < levels; k++) {
-                if (partAt[k] < men.length) {
-                    men[partAt[k]] = foundAt[k];
+                if (partAt[k] < manAs.length) {
+                    manAs[partAt[k]] = foundAt[k];
                 }
             }
         }
 
-        int leastLoss(Play of, Evening evening) {
-            if (!prepare(of, evening, false)) {
+        int leastLoss(Play play, Evening evening) {
+            if (!prepare(play, evening, false)) {
                 return NONE;
             }
             for (int k = 0; k < levels; k++) {
@@ -1532,8 +1524,8 @@ public final class RecastStage {
             return findCheapest() ? cheapest : NONE;
         }
 
-        int fewestWhispers(Play of, Evening evening) {
-            if (!prepare(of, evening, true)) {
+        int fewestWhispers(Play play, Evening evening) {
+            if (!prepare(play, evening, true)) {
                 return NONE;
             }
             for (int k = 0; k < levels; k++) {
@@ -1556,7 +1548,7 @@ public final class RecastStage {
 
         private int cheapestAt(int level) {
             int least = IMPOSSIBLE * 2;
-            for (int m = 0; m < play.men; m++) {
+            for (int m = 0; m < men; m++) {
                 if (has(ableAt[level], m)) {
                     least = Math.min(least, costs[level * MOST_MEN + m]);
                 }
@@ -1575,7 +1567,7 @@ public final class RecastStage {
                 return;
             }
             int free = freeMen(level, used);
-            for (int m = 0; m < play.men; m++) {
+            for (int m = 0; m < men; m++) {
                 if (has(free, m)) {
                     manAt[level] = m;
                     seekCheapest(level + 1, used | 1 << m, cost + costs[level * MOST_MEN + m]);
@@ -1584,12 +1576,12 @@ public final class RecastStage {
         }
 
         // How many CASTS by these MEN there are; who is in each of them is kept as 'always'.
-        int countBy(Play of, Evening evening, int men) {
+        int countBy(Play play, Evening evening, int allowed) {
             total = 0;
-            always = of.allMen();
-            if (prepare(of, evening, false)) {
+            always = play.allMen();
+            if (prepare(play, evening, false)) {
                 for (int k = 0; k < levels; k++) {
-                    ableAt[k] &= men;
+                    ableAt[k] &= allowed;
                 }
                 seekAll(0, 0);
             }
@@ -1607,7 +1599,7 @@ public final class RecastStage {
                 addLast(free, used);
                 return;
             }
-            for (int m = 0; m < play.men; m++) {
+            for (int m = 0; m < men; m++) {
                 if (has(free, m)) {
                     manAt[level] = m;
                     seekAll(level + 1, used | 1 << m);
@@ -1626,8 +1618,8 @@ public final class RecastStage {
 
         // A smallest set that can't be filled is one with fewer MEN than PARTS: by Hall's theorem one of those
         // stands in each set that can't be filled.
-        int shortSet(Play of, Evening evening) {
-            if (!prepare(of, evening, false)) {
+        int shortSet(Play play, Evening evening) {
+            if (!prepare(play, evening, false)) {
                 return 0;
             }
             int found = 0;
@@ -1641,13 +1633,13 @@ public final class RecastStage {
         }
 
         private int ableForAny(int set) {
-            int men = 0;
+            int able = 0;
             for (int k = 0; k < levels; k++) {
                 if (has(set, k)) {
-                    men |= ableAt[k];
+                    able |= ableAt[k];
                 }
             }
-            return men;
+            return able;
         }
 
         private int partsAt(int set) {
@@ -1833,8 +1825,6 @@ public final class RecastStage {
         private final int[] signs = new int[MOST_STEPS];
         private final int[] numbers = new int[MOST_STEPS];
         private final int[] sets = new int[MOST_STEPS];
-        private Reader reader = null;
-        private Play play = null;
 
         void clear() {
             ones = 0;
@@ -1849,35 +1839,33 @@ public final class RecastStage {
             System.arraycopy(other.numbers, 0, numbers, 0, MOST_STEPS);
         }
 
-        void read(Reader from, Play of) {
-            reader = from;
-            play = of;
+        void read(Reader reader, Play play) {
             clear();
-            readCond(0);
+            readCond(reader, play, 0);
             if (reader.isFine() && reader.kind != Reader.AT_END) {
                 reader.fail(CANT_COME);
             }
         }
 
-        private void readCond(int within) {
-            readAll(within);
+        private void readCond(Reader reader, Play play, int within) {
+            readAll(reader, play, within);
             for (int k = 0; k < MOST_ONES && reader.isFine() && reader.isAtWord(OR); k++) {
                 reader.step();
-                readAll(within);
+                readAll(reader, play, within);
                 addStep(OR, 0, 0);
             }
         }
 
-        private void readAll(int within) {
-            readOne(within + 1);
+        private void readAll(Reader reader, Play play, int within) {
+            readOne(reader, play, within + 1);
             for (int k = 0; k < MOST_ONES && reader.isFine() && reader.isAtWord(AND); k++) {
                 reader.step();
-                readOne(within + 1);
+                readOne(reader, play, within + 1);
                 addStep(AND, 0, 0);
             }
         }
 
-        private void readOne(int within) {
+        private void readOne(Reader reader, Play play, int within) {
             int word = reader.wordHere();
             boolean bracket = reader.isAtSign('(');
             if (!bracket && (word < NOT || word > NUMBER)) {
@@ -1891,19 +1879,19 @@ public final class RecastStage {
             ones++;
             reader.step();
             if (bracket) {
-                readCond(within);
+                readCond(reader, play, within);
                 if (reader.isFine()) {
                     reader.takeSign(')');
                 }
             } else if (word == NOT) {
-                readOne(within + 1);
+                readOne(reader, play, within + 1);
                 addStep(NOT, 0, 0);
             } else {
-                readPlainOne(word);
+                readPlainOne(reader, play, word);
             }
         }
 
-        private void readPlainOne(int word) {
+        private void readPlainOne(Reader reader, Play play, int word) {
             if (word == PLAYS || word == RESTED || word == SURE) {
                 addStep(word, 0, 0);
             } else if (word == KNOWS) {
@@ -1920,7 +1908,7 @@ public final class RecastStage {
         }
 
         private void addStep(int kind, int sign, int number) {
-            if (steps < MOST_STEPS && reader.isFine()) {
+            if (steps < MOST_STEPS) {
                 kinds[steps] = kind;
                 signs[steps] = sign;
                 numbers[steps] = number;
@@ -1928,12 +1916,12 @@ public final class RecastStage {
             }
         }
 
-        int menOf(Play of, Evening evening) {
+        int menOf(Play play, Evening evening) {
             int top = -1;
             for (int k = 0; k < steps; k++) {
                 int kind = kinds[k];
                 if (kind == NOT && top >= 0) {
-                    sets[top] = of.allMen() & ~sets[top];
+                    sets[top] = play.allMen() & ~sets[top];
                 } else if (kind == AND && top >= 1) {
                     top--;
                     sets[top] &= sets[top + 1];
@@ -1942,24 +1930,24 @@ public final class RecastStage {
                     sets[top] |= sets[top + 1];
                 } else if (top + 1 < MOST_STEPS) {
                     top++;
-                    sets[top] = menOfOne(k, of, evening);
+                    sets[top] = menOfOne(k, play, evening);
                 }
             }
             return top >= 0 ? sets[top] : 0;
         }
 
-        private int menOfOne(int k, Play of, Evening evening) {
+        private int menOfOne(int k, Play play, Evening evening) {
             switch (kinds[k]) {
                 case PLAYS:
                     return evening.menOn();
                 case RESTED:
-                    return of.allMen() & ~evening.ahead;
+                    return play.allMen() & ~evening.ahead;
                 case SURE:
-                    return evening.sureMen(of);
+                    return evening.sureMen(play);
                 default:
                     int men = 0;
-                    for (int m = 0; m < of.men; m++) {
-                        if (holdsFor(m, k, of, evening)) {
+                    for (int m = 0; m < play.men; m++) {
+                        if (holdsFor(m, k, play, evening)) {
                             men |= 1 << m;
                         }
                     }
@@ -1967,12 +1955,12 @@ public final class RecastStage {
             }
         }
 
-        private boolean holdsFor(int m, int k, Play of, Evening evening) {
+        private boolean holdsFor(int m, int k, Play play, Evening evening) {
             switch (kinds[k]) {
                 case KNOWS:
                     return has(evening.known[m], numbers[k]);
                 case SKILL:
-                    return compares(of.manSkill[m], k);
+                    return compares(play.manSkill[m], k);
                 case TIMES:
                     return compares(evening.times[m], k);
                 case CLAPS:

@@ -279,6 +279,11 @@ public final class CastTest {
             CHECK.due("undo behind " + seed, x.undo(), 1);
             CHECK.due("cast as it was", x.now(3), 1);
         }
+        for (int seed = 0; seed < 40; seed++) {
+            RecastStage x = Check.stage("part p 9;man a 0 1;man b 0 1;act;scene p;act;act;");
+            CHECK.due("drawn(" + seed + ") of none", x.drawn(seed), 0);
+            CHECK.due("no draws behind the stop", x.man(0, 7) + 2 * x.man(1, 7), drawIll(new int[] {seed}, 2));
+        }
         CHECK.due("no MEN", Check.stage("act;").drawn(1), -1);
         CHECK.due("no ACTS", Check.stage("man a 0 1;").drawn(1), -1);
     }

@@ -83,6 +83,15 @@ public final class EveningTest {
         CHECK.due("curtain()", x.curtain(), 1);
         CHECK.due("a as p", x.cast(0, 0), 0);
         CHECK.due("together in this one", x.cast(1, 1), 9);
+        RecastStage y = Check.stage("part p 0;part q 0;part r 0;man a 0 1;man b 0 1;man c 0 1;foes a b;foes c b;act;"
+                + "scene p q;scene q r;");
+        CHECK.due("b as q", y.cast(1, 1), 0);
+        CHECK.due("beside p", y.cast(0, 0), 9);
+        CHECK.due("beside r", y.cast(2, 2), 9);
+        CHECK.due("drop(1)", y.drop(1), 1);
+        CHECK.due("a as p", y.cast(0, 0), 0);
+        CHECK.due("b is a foe of both, too", y.cast(1, 1), 9);
+        CHECK.due("but apart from r", y.cast(1, 2), 0);
     }
 
     private static void castAndDrop() {

@@ -44,6 +44,13 @@ public final class FaceTest {
         check.row("methods", seen.toString(), wanted.toString());
         check.due("a private method with a public one's name", Collections.disjoint(publicNames, privateNames), true);
 
+        for (Class<?> inside : face.getDeclaredClasses()) {
+            check.due(inside + " is private and static", Modifier.isPrivate(inside.getModifiers())
+                    && Modifier.isStatic(inside.getModifiers()), true);
+            for (Method method : inside.getDeclaredMethods()) {
+                check.due(method + " has a name of its own", publicNames.contains(method.getName()), false);
+            }
+        }
         for (Field field : face.getDeclaredFields()) {
             boolean known = field.getName().equals("NONE") || Modifier.isPrivate(field.getModifiers());
             check.due(field + " is of the face or private", known, true);

@@ -14,6 +14,7 @@ public final class TextTest {
         leastOfOneToken();
         mostBytes();
         playIsTold();
+        playIsNew();
         faultIsLatest();
         CHECK.finish();
     }
@@ -83,6 +84,8 @@ public final class TextTest {
         fine(2, " act \n;\nact ; ");
         fine(1, "part abcdefg 00;");
         fine(1, "part p 09;");
+        fine(2, "part azaz 1;part zaza 1;");
+        fine(3, "part a 1;part aa 1;part za 1;");
         fault(1, "part ^abcdefgh 0;");
         fault(1, "part ^p1 0;");
         fault(1, "part ^1p 0;");
@@ -272,6 +275,23 @@ public final class TextTest {
         CHECK.throwsNoSuch("man(0, -1)", x, 0, -1);
         CHECK.throwsNoSuch("man(0, 8)", x, 0, 8);
         CHECK.throwsNoSuch("man(2, 0)", x, 2, 0);
+    }
+
+    /** Nothing of a PLAY ahead, or of one with a FAULT, is left in a new one. */
+    private static void playIsNew() {
+        RecastStage x = Check.stage(TOLD);
+        Check.play(x, "rest;" + TOLD + "act;act;act;act;");
+        CHECK.due("too many ACTS", x.fault(), 4);
+        CHECK.due("a new PLAY", Check.play(x, "part king 5;part maid 2;fact key;fact cup;man ann 6 2;man bob 6 3;act;"
+                + "scene king maid;"), 8);
+        CHECK.due("needs", x.part(0, 1), 0);
+        CHECK.due("rest", x.count(5), 0);
+        CHECK.due("FACTS of the ACT", x.act(0, 2), 0);
+        CHECK.due("no foes, none who never plays", x.casts(), 2);
+        CHECK.due("no likings", x.best(), 0);
+        x.whisper(0, 0);
+        CHECK.due("key clears nobody", x.suspects(0), 3);
+        CHECK.due("the pairs can be told anew", Check.play(x, TOLD), 22);
     }
 
     private static void faultIsLatest() {
