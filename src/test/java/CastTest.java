@@ -94,6 +94,13 @@ public final class CastTest {
         CHECK.due("all are over", x.bowed(0), 0);
         CHECK.due("no such MEN", x.bowed(16), -1);
         CHECK.due("all are over", x.surely(), -1);
+        // c as p leaves nobody for q: what is no CAST does not count
+        RecastStage dead = Check.stage("part p 0;part q 0;man a 0 1;man b 0 1;man c 0 1;act;scene p q;foes a c;never b q;"
+                + "never b p;never c q;");
+        CHECK.due("nobody beside a as q", dead.casts(), 0);
+        RecastStage sure = Check.stage("part p 0;part q 5;man a 5 1;man b 0 1;man c 0 1;act;scene p q;foes a c;");
+        CHECK.due("b as p, a as q", sure.casts(), 1);
+        CHECK.due("both", sure.surely(), 3);
         RecastStage y = Check.stage("part p 1;man a 0 1;act;scene p;");
         CHECK.due("there is none", y.casts(), 0);
         CHECK.due("there is none", y.surely(), -1);

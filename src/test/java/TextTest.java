@@ -224,6 +224,7 @@ public final class TextTest {
         fault(1, "act;" + Check.times(" ", 894) + "re^st;");
         fault(1, "act;" + Check.times(" ", 894) + "^rested;");
         fault(3, "rest;" + Check.times(" ", 893) + "^rest;");
+        fault(1, "rest;" + Check.times(" ", 895) + "^rest;");
         fault(1, "part p 1;" + Check.times(" ", 890) + "a^ct;");
         fault(1, "part p" + Check.times(" ", 893) + "^123;");
         fault(2, "part p" + Check.times(" ", 893) + "^12;");
