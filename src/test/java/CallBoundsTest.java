@@ -14,6 +14,7 @@ public final class CallBoundsTest {
         feedHighestByteFirst();
         endOfSoManyBytes();
         playOfAnEmptyTape();
+        playIsNew();
         playWithAFaultStays();
         tapeIsEmptyThen();
         faultOfTheLatest();
@@ -34,6 +35,7 @@ public final class CallBoundsTest {
         saidOfNone();
         restedAndSure();
         signsAtTheirBounds();
+        saidByTwentyOnes();
         imageInNoSuchPlace();
         restoreOfNothing();
         restoreKeepsWhatOtherCallsTold();
@@ -159,6 +161,50 @@ public final class CallBoundsTest {
         CHECK.due("the same NAMES may be told anew", Check.play(x, PLAY), 19);
         CHECK.due("and again", Check.play(x, PLAY), 19);
         CHECK.row("counts", counts(x), "2 2 3 3 2 0 0");
+    }
+
+    /** "A new PLAY: ACT 0 is next, nobody cast, ill or knowing anything, no SENTENCE" */
+    private static void playIsNew() {
+        String text = "part p 0;part q 0;fact f;fact g;needs q g;man a 0 1;man b 4 2;man c 9 4;likes b p 3;likes c p 2;act;"
+                + "scene p;shows f;act;scene p;act;scene p q;";
+        RecastStage x = Check.stage(text);
+        Check.book(x, "a as p;curtain;b as p;curtain;", 1);
+        x.whisper(2, 1);
+        Check.sentence(x, "number < 9");
+        int seed = 0;
+        while (x.man(0, 7) == 1 || x.man(1, 7) == 0) {
+            x.undo();
+            x.drawn(seed);
+            seed++;
+        }
+        x.whisper(2, 1);
+        x.cast(0, 0);
+        CHECK.row("much went on", now(x), "2 3 4 1 1 11 3");
+        CHECK.due("the same anew", Check.play(x, text), 17);
+        CHECK.row("ACT 0 is next", now(x), "0 0 0 0 0 0 0");
+        for (int m = 0; m < 3; m++) {
+            CHECK.due("nobody cast", x.man(m, 2), -1);
+            for (int what = 3; what < 8; what++) {
+                CHECK.due("man(" + m + ", " + what + ")", x.man(m, what), 0);
+            }
+        }
+        for (int p = 0; p < 2; p++) {
+            CHECK.due("nobody cast", x.part(p, 2), -1);
+            CHECK.due("nobody played", x.part(p, 3), -1);
+        }
+        CHECK.due("no SENTENCE", x.said(-1), -1);
+        CHECK.due("nothing can be undone", x.undo(), -1);
+        CHECK.due("told with 'rest', 'never', 'foes'", Check.play(x, text + "rest;never a p;foes a b;"), 20);
+        CHECK.due("and without", Check.play(x, text), 17);
+        CHECK.due("no 'rest'", x.count(5), 0);
+        CHECK.due("no 'never'", x.cast(0, 0), 0);
+        String more = "rest;never a p;likes a p 9;needs p f;clears g p;";
+        CHECK.due("with a FAULT", Check.play(x, text + more + "?"), -1 - text.length() - more.length());
+        CHECK.due("and again without", Check.play(x, text), 17);
+        CHECK.due("nothing of it is left", x.count(5) + x.why(0, 0) + x.part(0, 1), 0);
+        CHECK.due("nobody likes p more", x.best(), 3);
+        x.whisper(0, 1);
+        CHECK.due("g clears none", x.suspects(0), 3);
     }
 
     /** "-1 less the place of a FAULT: it stays" */
@@ -552,6 +598,27 @@ public final class CallBoundsTest {
             CHECK.due("sentence() of " + texts[k], Check.sentence(x, texts[k]), 1);
             CHECK.due("said(-1) of " + texts[k], x.said(-1), due[k]);
         }
+    }
+
+    private static void saidBy(RecastStage x, String text, int ones, int men) {
+        CHECK.due("sentence() of " + text, Check.sentence(x, text), ones);
+        CHECK.due("said(-1) of " + text, x.said(-1), men);
+    }
+
+    /** "20 ONES, 8 within one another": the last counts as the first does */
+    private static void saidByTwentyOnes() {
+        RecastStage x = Check.stage(PLAY);
+        saidBy(x, Check.times("plays or ", 19) + "plays", 20, 0);
+        saidBy(x, Check.times("plays or ", 19) + "rested", 20, 3);
+        saidBy(x, "rested" + Check.times(" or plays", 19), 20, 3);
+        saidBy(x, Check.times("not plays and ", 9) + "not plays", 20, 3);
+        saidBy(x, Check.times("not plays and ", 9) + "not rested", 20, 0);
+        saidBy(x, "not rested" + Check.times(" and not plays", 9), 20, 0);
+        saidBy(x, Check.times("not ", 7) + "plays", 8, 3);
+        saidBy(x, Check.times("not ", 6) + "plays", 7, 0);
+        saidBy(x, Check.times("(", 7) + "plays or rested" + Check.times(")", 7), 9, 3);
+        saidBy(x, Check.times("(", 7) + "plays and rested" + Check.times(")", 7), 9, 0);
+        saidBy(x, "not (not (not (not plays or plays)))", 9, 0);
     }
 
     /** "image: .. false: no such one" */

@@ -45,10 +45,12 @@ public final class FaceTest {
         check.due("a private method with a public one's name", Collections.disjoint(publicNames, privateNames), true);
 
         for (Class<?> inside : face.getDeclaredClasses()) {
-            check.due(inside + " is private and static", Modifier.isPrivate(inside.getModifiers())
-                    && Modifier.isStatic(inside.getModifiers()), true);
+            int seenFrom = inside.getModifiers() & (Modifier.PUBLIC | Modifier.PROTECTED);
+            check.due(inside + " is private or package-visible", seenFrom, 0);
+            check.due(inside + " is static", Modifier.isStatic(inside.getModifiers()), true);
             for (Method method : inside.getDeclaredMethods()) {
-                check.due(method + " has a name of its own", publicNames.contains(method.getName()), false);
+                boolean hidden = Modifier.isPrivate(method.getModifiers());
+                check.due(method + " has a name of its own", hidden && publicNames.contains(method.getName()), false);
             }
         }
         for (Field field : face.getDeclaredFields()) {

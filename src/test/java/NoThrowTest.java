@@ -21,9 +21,9 @@ public final class NoThrowTest {
         calls = Arrays.stream(calls).filter(m -> java.lang.reflect.Modifier.isPublic(m.getModifiers()))
                 .sorted(Comparator.comparing(Method::getName)).toArray(Method[]::new);
         Random random = new Random(11);
-        for (int run = 0; run < 120; run++) {
+        for (int run = 0; run < 170; run++) {
             RecastStage x = Check.stage(TEXTS[random.nextInt(2)]);
-            for (int k = 0; k < 480; k++) {
+            for (int k = 0; k < 340; k++) {
                 if (random.nextInt(30) == 0) {
                     x.end(0);
                     Check.tape(x, TEXTS[random.nextInt(TEXTS.length)]);

@@ -596,6 +596,9 @@ public final class TextBoundsTest {
         sentenceFine(20, nineteen + " or sure");
         sentenceFine(20, nineteen + " and plays");
         sentenceFault(4, nineteen + " or sure or ^sure");
+        sentenceFine(20, "sure" + Check.times(" and sure", 19));
+        sentenceFault(4, "sure" + Check.times(" and sure", 19) + " and ^sure");
+        sentenceFine(20, Check.times("not sure or ", 9) + "not sure");
         sentenceFault(4, nineteen + " or sure and ^knows ?");
         sentenceFault(4, nineteen + " or sure or ^skill ?");
         sentenceFault(4, nineteen + " or sure or ^(");
